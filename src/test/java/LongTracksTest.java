@@ -50,6 +50,7 @@ public final class LongTracksTest {
         for (int i = 0; i < sizes.length; i++) {
             new LongTracksTest(sizes[i][0], sizes[i][1], sizes[i][2], new Random(i)).compare();
         }
+        leftOutOfAllRows();
         oddCallsEnd();
         CHECK.end();
     }
@@ -106,6 +107,20 @@ public final class LongTracksTest {
             x.margin(above - 1);
             CHECK.no("unsure(" + k + ") by less than " + above, x.unsure(k));
         }
+    }
+
+    /** Every row has a truth, each third one an act that costs more than another one. */
+    private static void leftOutOfAllRows() {
+        ActChains x = new ActChains(12);
+        x.speed(11, 4, 1);
+        for (int k = 0; k < 200; k++) {
+            x.row(k, 4, 0);
+            x.truth(k, k % 3 == 0 ? 11 : 0);
+        }
+        CHECK.due("leftOut(0) of 200 rows", x.leftOut(0), 67 * 1000 / 200);
+        CHECK.due("run() of 200 truths", x.run(), 67);
+        CHECK.due("fit(20) of 200 truths", x.fit(20), 0);
+        CHECK.due("sum(0)", x.sum(0), 67);
     }
 
     /** Whatever is asked whenever, nothing is thrown: main would end with the exception. */
