@@ -19,6 +19,8 @@ public final class ActChains {
     private static final int MOST_COST = 10000;
     private static final int MOST_MARGIN = 100000;
     private static final int MOST_CELL_SECONDS = 1000000;
+    /** 2^31 - 1. */
+    private static final int LAST_HAUL_SECOND = 2147483647;
 
     private static final int HAULING = 3;
     private static final int FIRST_HAULING_TURN = 2;
@@ -142,7 +144,7 @@ public final class ActChains {
             return NONE;
         }
         long second = end == 0 ? tracks.seconds[first] : latest.endOf(latest.haulLast(first), tracks.seconds);
-        return second <= Integer.MAX_VALUE ? (int) second : NONE;
+        return second <= LAST_HAUL_SECOND ? (int) second : NONE;
     }
 
     public int differs(int k, int what) {

@@ -1,126 +1,87 @@
-import java.util.Arrays;
+import java.util.ArrayList;
+import java.util.List;
 import java.util.Random;
 
 /** Up to 200 rows and 12 acts, against a search from the first row on; and odd arguments in odd states. */
-public final class LongTracksTest {
+public final class LongTracksTest extends Calls {
     private static final Check CHECK = new Check("LongTracksTest");
-    private static final int FAR = 100000000;
-
-    private final ActChains x;
-    private final int acts;
-    private final int[] classes;
-    private final int[] truths;
-    private final int[][] changes;
-    private final int[][] speeds;
-
-    private LongTracksTest(int acts, int rows, int mostCost, Random random) {
-        this.acts = acts;
-        x = new ActChains(acts);
-        classes = new int[rows];
-        truths = new int[rows];
-        changes = new int[acts][acts];
-        speeds = new int[acts][10];
-        tellCosts(mostCost, random);
-        for (int k = 0; k < rows; k++) {
-            classes[k] = random.nextInt(10);
-            x.row(k, classes[k], 0);
-            truths[k] = -1;
-            if (random.nextInt(20) == 0) {
-                truths[k] = random.nextInt(acts);
-                x.truth(k, truths[k]);
-            }
-        }
-    }
-
-    private void tellCosts(int mostCost, Random random) {
-        for (int a = 0; a < acts; a++) {
-            for (int b = 0; b < acts; b++) {
-                changes[a][b] = random.nextInt(mostCost + 1);
-                x.move(a, b, changes[a][b]);
-            }
-            for (int c = 0; c < 10; c++) {
-                speeds[a][c] = random.nextInt(mostCost + 1);
-                x.speed(a, c, speeds[a][c]);
-            }
-        }
-    }
 
     public static void main(String[] args) {
         int[][] sizes = {{12, 200, 10000}, {12, 200, 1}, {3, 200, 2}, {5, 120, 10000}, {2, 200, 1}};
         for (int i = 0; i < sizes.length; i++) {
-            new LongTracksTest(sizes[i][0], sizes[i][1], sizes[i][2], new Random(i)).compare();
+            compare(searchOf(sizes[i][0], sizes[i][1], sizes[i][2], new Random(i)));
         }
         leftOutOfAllRows();
         oddCallsEnd();
         CHECK.end();
     }
 
-    /** The least cost of the lines that are allowed: kept[k] is row k's act if not -1, and barred[k] is not. */
-    private int least(int[] kept, int[] barred) {
-        int[] sofar = new int[acts];
-        for (int k = 0; k < classes.length; k++) {
-            int[] now = new int[acts];
-            for (int b = 0; b < acts; b++) {
-                now[b] = FAR;
-                for (int a = 0; a < acts; a++) {
-                    now[b] = Math.min(now[b], sofar[a] + (k == 0 ? 0 : changes[a][b]));
-                }
-                boolean allowed = (kept[k] == -1 || kept[k] == b) && barred[k] != b;
-                now[b] = allowed ? now[b] + speeds[b][classes[k]] : FAR;
-            }
-            sofar = now;
-        }
-        int least = FAR;
+    private static SecondSearch searchOf(int acts, int rows, int mostCost, Random random) {
+        SecondSearch search = new SecondSearch(acts, rows);
         for (int a = 0; a < acts; a++) {
-            least = Math.min(least, sofar[a]);
-        }
-        return least;
-    }
-
-    private void compare() {
-        int[] barred = new int[classes.length];
-        Arrays.fill(barred, -1);
-        int best = least(truths, barred);
-        CHECK.due("run()", x.run(), best);
-        int[] line = truths.clone();
-        for (int k = 0; k < line.length; k++) {
-            for (int a = 0; line[k] == -1; a++) {
-                line[k] = a;
-                if (least(line, barred) != best) {
-                    line[k] = -1;
-                }
+            for (int b = 0; b < acts; b++) {
+                search.changes[a][b] = random.nextInt(mostCost + 1);
             }
-            CHECK.due("act(" + k + ")", x.act(k), line[k]);
+            for (int c = 0; c < 10; c++) {
+                search.speeds[a][c] = random.nextInt(mostCost + 1);
+            }
         }
+        for (int k = 0; k < rows; k++) {
+            search.classes[k] = random.nextInt(10);
+            search.truths[k] = random.nextInt(20) == 0 ? random.nextInt(acts) : -1;
+        }
+        return search;
+    }
+
+    /** The questions are more than one object may be asked: each new one is told all again. */
+    private static void compare(SecondSearch search) {
+        List<Call> telling = telling(search);
+        int[] line = search.line();
+        int cost = search.cost();
+        Track x = null;
         for (int k = 0; k < line.length; k++) {
-            barred[k] = line[k];
-            checkNextCost(k, truths[k] == -1 ? least(truths, barred) - best : -1);
-            barred[k] = -1;
+            if (x == null || x.calls() > Track.MOST_CALLS - 6) {
+                x = new Track(CHECK, search.acts + " acts", search.acts).after(telling).due(cost, run());
+            }
+            x.due(line[k], act(k));
+            checkNextCost(x, k, search.above(k, line));
         }
     }
 
-    private void checkNextCost(int k, int above) {
-        CHECK.due("tied(" + k + ")", x.tied(k) ? 1 : 0, above == 0 ? 1 : 0);
-        x.margin(above < 0 ? 100000 : above);
-        CHECK.due("unsure(" + k + ") by " + above, x.unsure(k) ? 1 : 0, above >= 0 ? 1 : 0);
+    private static List<Call> telling(SecondSearch search) {
+        List<Call> telling = new ArrayList<>();
+        for (int a = 0; a < search.acts; a++) {
+            for (int b = 0; b < search.acts; b++) {
+                telling.add(move(a, b, search.changes[a][b]));
+            }
+            for (int c = 0; c < 10; c++) {
+                telling.add(speed(a, c, search.speeds[a][c]));
+            }
+        }
+        for (int k = 0; k < search.classes.length; k++) {
+            telling.add(row(k, search.classes[k], 0));
+            if (search.truths[k] != -1) {
+                telling.add(truth(k, search.truths[k]));
+            }
+        }
+        return telling;
+    }
+
+    private static void checkNextCost(Track x, int k, int above) {
+        x.due(above == 0 ? 1 : 0, tied(k));
+        x.after(margin(above < 0 ? 100000 : above)).due(above < 0 ? 0 : 1, unsure(k));
         if (above > 0) {
-            x.margin(above - 1);
-            CHECK.no("unsure(" + k + ") by less than " + above, x.unsure(k));
+            x.after(margin(above - 1)).no(unsure(k));
         }
     }
 
     /** Every row has a truth, each third one an act that costs more than another one. */
     private static void leftOutOfAllRows() {
-        ActChains x = new ActChains(12);
-        x.speed(11, 4, 1);
+        Track x = new Track(CHECK, "200 truths", 12).after(speed(11, 4, 1));
         for (int k = 0; k < 200; k++) {
-            x.row(k, 4, 0);
-            x.truth(k, k % 3 == 0 ? 11 : 0);
+            x.after(row(k, 4, 0), truth(k, k % 3 == 0 ? 11 : 0));
         }
-        CHECK.due("leftOut(0) of 200 rows", x.leftOut(0), 67 * 1000 / 200);
-        CHECK.due("run() of 200 truths", x.run(), 67);
-        CHECK.due("fit(20) of 200 truths", x.fit(20), 0);
-        CHECK.due("sum(0)", x.sum(0), 67);
+        x.due(67 * 1000 / 200, leftOut(0)).due(67, run()).due(0, fit(20)).due(67, sum(0));
     }
 
     /** Whatever is asked whenever, nothing is thrown: main would end with the exception. */
